@@ -4,60 +4,13 @@ public final class PromisesTest {
     private static final long LAST_TIME = 1_000_000_000L;
     private static final Check CHECK = new Check("PromisesTest");
 
-    public static void main(String[] args) {
-        promise1MostIsBroughtToItsBounds();
-        promise1NobodyIsInAtFirst();
-        promise2PictureNumbersAndEdges();
-        promise2PictureRefusals();
-        promise2RoomComesBeforeZero();
-        promise2EndedPicturesMakePlace();
-        promise3GiveByDueTimeThenNumber();
-        promise3GiveBySkill();
-        promise3GiveToDifferentOffices();
-        promise3OfficeIsTheOneOnGetting();
-        promise3ThirdMayBeOfAnyOffice();
-        promise3NeverTwiceToOneClerk();
-        promise3GiveLetsTimePass();
-        promise3GiveRefusals();
-        promise4EqualAnswersSettle();
-        promise4EqualZerosAreUnreadable();
-        promise4ThirdAnswerDecides();
-        promise4LateAnswerIsKept();
-        promise4AnswerRefusals();
-        promise5OfficeComesAndChanges();
-        promise5OfficeWhileHolding();
-        promise5OfficeRefusals();
-        promise6LeaveGivesBack();
-        promise6LeaveWithALatePicture();
-        promise6LeaveRefusals();
-        promise7TickCountsSinceTheTickBefore();
-        promise7TickEdges();
-        promise8Settled();
-        promise9State();
-        promise10Agreement();
-        promise10AgreementRefusals();
-        promise11Waiting();
-        refusedCallsLetNoTimePass();
+    public static void main(String[] args) throws IllegalAccessException {
+        CHECK.runAll(PromisesTest.class);
         CHECK.end();
     }
 
     private static void due(String call, long got, long want) {
         CHECK.due(call, got, want);
-    }
-
-    /** A new object with clerk i in office i % 5, skill 3, for i below clerks. */
-    private static ClerkRows withClerks(int most, int clerks) {
-        ClerkRows x = new ClerkRows(most);
-        for (int i = 0; i < clerks; i++) {
-            due("coming in", x.office(i, i % 5, 3), 1);
-        }
-        return x;
-    }
-
-    /** Lets the clerk get what is given at t, which should be the picture, and answer it: the state then. */
-    private static int getAndAnswer(ClerkRows x, int clerk, int picture, int entry, long t) {
-        due("give to clerk " + clerk, x.give(clerk, t), picture);
-        return x.answer(clerk, picture, entry, t);
     }
 
     private static int placesFor(int most) {
@@ -69,7 +22,7 @@ public final class PromisesTest {
         return places;
     }
 
-    private static void promise1MostIsBroughtToItsBounds() {
+    static void promise1MostIsBroughtToItsBounds() {
         due("most MIN_VALUE", placesFor(Integer.MIN_VALUE), 1);
         due("most -1", placesFor(-1), 1);
         due("most 0", placesFor(0), 1);
@@ -81,7 +34,7 @@ public final class PromisesTest {
         due("most MAX_VALUE", placesFor(Integer.MAX_VALUE), 100);
     }
 
-    private static void promise1NobodyIsInAtFirst() {
+    static void promise1NobodyIsInAtFirst() {
         ClerkRows x = new ClerkRows(5);
         for (int i = 0; i < 20; i++) {
             due("give at first", x.give(i, 0), STATE);
@@ -91,7 +44,7 @@ public final class PromisesTest {
         due("tick at first", x.tick(0), 0);
     }
 
-    private static void promise2PictureNumbersAndEdges() {
+    static void promise2PictureNumbersAndEdges() {
         ClerkRows x = new ClerkRows(5);
         due("due 0", x.picture(0, 0), 1);
         due("due the last time", x.picture(LAST_TIME, 3), 2);
@@ -101,7 +54,7 @@ public final class PromisesTest {
         due("its state", x.state(3), 0);
     }
 
-    private static void promise2PictureRefusals() {
+    static void promise2PictureRefusals() {
         ClerkRows x = new ClerkRows(1);
         due("due -1", x.picture(-1, 0), OUTSIDE);
         due("due above the last time", x.picture(LAST_TIME + 1, 0), OUTSIDE);
@@ -116,7 +69,7 @@ public final class PromisesTest {
         due("OUTSIDE comes before 0", x.picture(1, 4), OUTSIDE);
     }
 
-    private static void promise2RoomComesBeforeZero() {
+    static void promise2RoomComesBeforeZero() {
         ClerkRows x = new ClerkRows(100);
         for (int i = 1; i <= 300; i++) {
             due("picture", x.picture((i - 1) / 100, 0), i);
@@ -134,37 +87,37 @@ public final class PromisesTest {
         due("no picture more", x.state(301), UNKNOWN);
     }
 
-    private static void promise2EndedPicturesMakePlace() {
-        ClerkRows x = withClerks(1, 3);
+    static void promise2EndedPicturesMakePlace() {
+        ClerkRows x = Scene.withClerks(1, 3);
         due("picture", x.picture(10, 0), 1);
         due("no place", x.picture(10, 0), 0);
-        due("first", getAndAnswer(x, 0, 1, 5, 0), 0);
+        due("first", Scene.getAndAnswer(x, 0, 1, 5, 0), 0);
         due("no place", x.picture(10, 0), 0);
-        due("second", getAndAnswer(x, 1, 1, 5, 0), 2);
+        due("second", Scene.getAndAnswer(x, 1, 1, 5, 0), 2);
         due("place by settling", x.picture(10, 0), 2);
         due("no place", x.picture(10, 0), 0);
-        due("first", getAndAnswer(x, 0, 2, 0, 0), 0);
-        due("second", getAndAnswer(x, 1, 2, 0, 0), 3);
+        due("first", Scene.getAndAnswer(x, 0, 2, 0, 0), 0);
+        due("second", Scene.getAndAnswer(x, 1, 2, 0, 0), 3);
         due("place by unreadable", x.picture(10, 0), 3);
         due("give lets it end as late", x.give(0, 11), 0);
         due("place by late", x.picture(11, 0), 4);
     }
 
-    private static void promise3GiveByDueTimeThenNumber() {
-        ClerkRows x = withClerks(10, 1);
+    static void promise3GiveByDueTimeThenNumber() {
+        ClerkRows x = Scene.withClerks(10, 1);
         due("picture", x.picture(30, 0), 1);
         due("picture", x.picture(20, 0), 2);
         due("picture", x.picture(20, 0), 3);
         due("picture", x.picture(10, 0), 4);
         int[] order = {4, 2, 3, 1};
         for (int picture : order) {
-            due("in order", getAndAnswer(x, 0, picture, 1, 0), 0);
+            due("in order", Scene.getAndAnswer(x, 0, picture, 1, 0), 0);
         }
         due("none is free", x.give(0, 0), 0);
         due("none is free, and none is held", x.give(0, 0), 0);
     }
 
-    private static void promise3GiveBySkill() {
+    static void promise3GiveBySkill() {
         ClerkRows x = new ClerkRows(10);
         for (int skill = 0; skill <= 3; skill++) {
             due("picture", x.picture(10 - skill, skill), skill + 1);
@@ -181,8 +134,8 @@ public final class PromisesTest {
         due("now one is free", x.give(5, 0), 2);
     }
 
-    private static void promise3GiveToDifferentOffices() {
-        ClerkRows x = withClerks(10, 10);
+    static void promise3GiveToDifferentOffices() {
+        ClerkRows x = Scene.withClerks(10, 10);
         due("picture", x.picture(10, 0), 1);
         due("the first of office 0", x.give(0, 0), 1);
         due("office 0 holds it", x.give(5, 0), 0);
@@ -196,8 +149,8 @@ public final class PromisesTest {
         due("office 1 does not hold it any more", x.give(6, 0), 1);
     }
 
-    private static void promise3OfficeIsTheOneOnGetting() {
-        ClerkRows x = withClerks(10, 7);
+    static void promise3OfficeIsTheOneOnGetting() {
+        ClerkRows x = Scene.withClerks(10, 7);
         due("picture", x.picture(10, 0), 1);
         due("got in office 0", x.give(0, 0), 1);
         due("moves to office 1", x.office(0, 1, 3), 1);
@@ -210,11 +163,11 @@ public final class PromisesTest {
         due("the asking clerk's office is today's", x.give(5, 0), 1);
     }
 
-    private static void promise3ThirdMayBeOfAnyOffice() {
-        ClerkRows x = withClerks(10, 12);
+    static void promise3ThirdMayBeOfAnyOffice() {
+        ClerkRows x = Scene.withClerks(10, 12);
         due("picture", x.picture(10, 0), 1);
-        due("first", getAndAnswer(x, 0, 1, 7, 0), 0);
-        due("second", getAndAnswer(x, 1, 1, 8, 0), 0);
+        due("first", Scene.getAndAnswer(x, 0, 1, 7, 0), 0);
+        due("second", Scene.getAndAnswer(x, 1, 1, 8, 0), 0);
         due("who answered never gets it again", x.give(0, 0), 0);
         due("a third of office 0", x.give(5, 0), 1);
         due("three are enough", x.give(6, 0), 0);
@@ -223,8 +176,8 @@ public final class PromisesTest {
         due("a third of office 1", x.give(6, 0), 1);
     }
 
-    private static void promise3NeverTwiceToOneClerk() {
-        ClerkRows x = withClerks(10, 2);
+    static void promise3NeverTwiceToOneClerk() {
+        ClerkRows x = Scene.withClerks(10, 2);
         due("picture", x.picture(10, 0), 1);
         due("give", x.give(0, 0), 1);
         due("leave", x.leave(0), 1);
@@ -233,8 +186,8 @@ public final class PromisesTest {
         due("another one", x.give(1, 0), 1);
     }
 
-    private static void promise3GiveLetsTimePass() {
-        ClerkRows x = withClerks(10, 2);
+    static void promise3GiveLetsTimePass() {
+        ClerkRows x = Scene.withClerks(10, 2);
         due("picture", x.picture(10, 0), 1);
         due("picture", x.picture(20, 0), 2);
         due("due now is not late", x.give(0, 10), 1);
@@ -245,8 +198,8 @@ public final class PromisesTest {
         due("tick tells the one that ended by give", x.tick(11), 1);
     }
 
-    private static void promise3GiveRefusals() {
-        ClerkRows x = withClerks(10, 1);
+    static void promise3GiveRefusals() {
+        ClerkRows x = Scene.withClerks(10, 1);
         due("clerk -1", x.give(-1, 0), UNKNOWN);
         due("clerk 20", x.give(20, 0), UNKNOWN);
         due("clerk MIN_VALUE", x.give(Integer.MIN_VALUE, 0), UNKNOWN);
@@ -262,8 +215,8 @@ public final class PromisesTest {
         due("the last time", x.give(0, LAST_TIME), 0);
     }
 
-    private static void promise4EqualAnswersSettle() {
-        ClerkRows x = withClerks(10, 2);
+    static void promise4EqualAnswersSettle() {
+        ClerkRows x = Scene.withClerks(10, 2);
         due("picture", x.picture(10, 0), 1);
         due("give", x.give(0, 0), 1);
         due("give", x.give(1, 0), 1);
@@ -277,11 +230,11 @@ public final class PromisesTest {
         due("give", x.give(0, 50), 2);
     }
 
-    private static void promise4EqualZerosAreUnreadable() {
-        ClerkRows x = withClerks(10, 2);
+    static void promise4EqualZerosAreUnreadable() {
+        ClerkRows x = Scene.withClerks(10, 2);
         due("picture", x.picture(10, 0), 1);
-        due("first", getAndAnswer(x, 0, 1, 0, 0), 0);
-        due("second", getAndAnswer(x, 1, 1, 0, 0), 3);
+        due("first", Scene.getAndAnswer(x, 0, 1, 0, 0), 0);
+        due("second", Scene.getAndAnswer(x, 1, 1, 0, 0), 3);
         due("settled", x.settled(1), 0);
         due("waiting", x.waiting(), 0);
         due("not late after its end", x.tick(50), 0);
@@ -289,10 +242,10 @@ public final class PromisesTest {
     }
 
     private static void third(int first, int second, int third, int state, int settled) {
-        ClerkRows x = withClerks(10, 4);
+        ClerkRows x = Scene.withClerks(10, 4);
         due("picture", x.picture(10, 0), 1);
-        due("first", getAndAnswer(x, 0, 1, first, 0), 0);
-        due("second", getAndAnswer(x, 1, 1, second, 0), 0);
+        due("first", Scene.getAndAnswer(x, 0, 1, first, 0), 0);
+        due("second", Scene.getAndAnswer(x, 1, 1, second, 0), 0);
         due("not ended", x.settled(1), -1);
         due("give the third", x.give(2, 0), 1);
         due("three", x.state(1), 1);
@@ -302,7 +255,7 @@ public final class PromisesTest {
         due("no fourth", x.give(3, 0), 0);
     }
 
-    private static void promise4ThirdAnswerDecides() {
+    static void promise4ThirdAnswerDecides() {
         third(5, 6, 5, 2, 5);
         third(5, 6, 6, 2, 6);
         third(5, 6, 7, 3, 0);
@@ -314,8 +267,8 @@ public final class PromisesTest {
         third(1, 0, 9999, 3, 0);
     }
 
-    private static void promise4LateAnswerIsKept() {
-        ClerkRows x = withClerks(10, 3);
+    static void promise4LateAnswerIsKept() {
+        ClerkRows x = Scene.withClerks(10, 3);
         due("picture", x.picture(10, 0), 1);
         due("give", x.give(0, 0), 1);
         due("give", x.give(1, 0), 1);
@@ -330,10 +283,10 @@ public final class PromisesTest {
         due("picture", x.picture(20, 0), 2);
         due("and may get another", x.give(1, 11), 2);
 
-        ClerkRows y = withClerks(10, 3);
+        ClerkRows y = Scene.withClerks(10, 3);
         due("picture", y.picture(10, 0), 1);
-        due("first", getAndAnswer(y, 0, 1, 5, 0), 0);
-        due("second", getAndAnswer(y, 1, 1, 6, 0), 0);
+        due("first", Scene.getAndAnswer(y, 0, 1, 5, 0), 0);
+        due("second", Scene.getAndAnswer(y, 1, 1, 6, 0), 0);
         due("third", y.give(2, 0), 1);
         due("late", y.tick(12), 1);
         due("a third answer too late", y.answer(2, 1, 6, 12), 4);
@@ -343,8 +296,8 @@ public final class PromisesTest {
         due("kept", y.agreement(0, 2, 1), 1);
     }
 
-    private static void promise4AnswerRefusals() {
-        ClerkRows x = withClerks(10, 2);
+    static void promise4AnswerRefusals() {
+        ClerkRows x = Scene.withClerks(10, 2);
         due("picture", x.picture(10, 0), 1);
         due("picture", x.picture(20, 0), 2);
         due("give", x.give(0, 5), 1);
@@ -374,7 +327,7 @@ public final class PromisesTest {
         due("nothing was answered", x.agreement(0, 1, 1), 0);
     }
 
-    private static void promise5OfficeComesAndChanges() {
+    static void promise5OfficeComesAndChanges() {
         ClerkRows x = new ClerkRows(5);
         due("comes in, where a clerk's fields might begin", x.office(0, 0, 0), 1);
         due("was so", x.office(0, 0, 0), 0);
@@ -387,8 +340,8 @@ public final class PromisesTest {
         due("the last clerk was so", x.office(19, 4, 3), 0);
     }
 
-    private static void promise5OfficeWhileHolding() {
-        ClerkRows x = withClerks(5, 1);
+    static void promise5OfficeWhileHolding() {
+        ClerkRows x = Scene.withClerks(5, 1);
         due("picture", x.picture(10, 3), 1);
         due("give", x.give(0, 0), 1);
         due("changes", x.office(0, 1, 0), 1);
@@ -396,7 +349,7 @@ public final class PromisesTest {
         due("may answer it", x.answer(0, 1, 5, 0), 0);
     }
 
-    private static void promise5OfficeRefusals() {
+    static void promise5OfficeRefusals() {
         ClerkRows x = new ClerkRows(5);
         due("clerk -1", x.office(-1, 0, 0), UNKNOWN);
         due("clerk 20", x.office(20, 0, 0), UNKNOWN);
@@ -410,8 +363,8 @@ public final class PromisesTest {
         due("nobody came in", x.leave(0), STATE);
     }
 
-    private static void promise6LeaveGivesBack() {
-        ClerkRows x = withClerks(5, 3);
+    static void promise6LeaveGivesBack() {
+        ClerkRows x = Scene.withClerks(5, 3);
         due("picture", x.picture(10, 0), 1);
         due("give", x.give(0, 0), 1);
         due("give", x.give(1, 0), 1);
@@ -426,11 +379,11 @@ public final class PromisesTest {
         due("answer", x.answer(1, 1, 5, 0), 0);
         due("leave after the answer", x.leave(1), 0);
         due("in", x.office(2, 2, 3), 1);
-        due("the answer of one who left counts", getAndAnswer(x, 2, 1, 5, 0), 2);
+        due("the answer of one who left counts", Scene.getAndAnswer(x, 2, 1, 5, 0), 2);
     }
 
-    private static void promise6LeaveWithALatePicture() {
-        ClerkRows x = withClerks(5, 1);
+    static void promise6LeaveWithALatePicture() {
+        ClerkRows x = Scene.withClerks(5, 1);
         due("picture", x.picture(10, 0), 1);
         due("give", x.give(0, 0), 1);
         due("tick", x.tick(11), 1);
@@ -438,7 +391,7 @@ public final class PromisesTest {
         due("it stays late", x.state(1), 4);
     }
 
-    private static void promise6LeaveRefusals() {
+    static void promise6LeaveRefusals() {
         ClerkRows x = new ClerkRows(5);
         due("clerk -1", x.leave(-1), UNKNOWN);
         due("clerk 20", x.leave(20), UNKNOWN);
@@ -446,8 +399,8 @@ public final class PromisesTest {
         due("clerk 19 is not in", x.leave(19), STATE);
     }
 
-    private static void promise7TickCountsSinceTheTickBefore() {
-        ClerkRows x = withClerks(10, 2);
+    static void promise7TickCountsSinceTheTickBefore() {
+        ClerkRows x = Scene.withClerks(10, 2);
         for (int i = 1; i <= 5; i++) {
             due("picture", x.picture(10 * i, 0), i);
         }
@@ -461,7 +414,7 @@ public final class PromisesTest {
         due("no more", x.tick(LAST_TIME), 0);
     }
 
-    private static void promise7TickEdges() {
+    static void promise7TickEdges() {
         ClerkRows x = new ClerkRows(10);
         due("t -1", x.tick(-1), OUTSIDE);
         due("t too great", x.tick(LAST_TIME + 1), OUTSIDE);
@@ -475,8 +428,8 @@ public final class PromisesTest {
         due("below it", x.tick(LAST_TIME - 1), OUTSIDE);
     }
 
-    private static void promise8Settled() {
-        ClerkRows x = withClerks(10, 2);
+    static void promise8Settled() {
+        ClerkRows x = Scene.withClerks(10, 2);
         due("none", x.settled(1), UNKNOWN);
         due("picture 0", x.settled(0), UNKNOWN);
         due("picture -1", x.settled(-1), UNKNOWN);
@@ -486,17 +439,17 @@ public final class PromisesTest {
         due("picture", x.picture(10, 0), 1);
         due("not ended", x.settled(1), -1);
         due("no second", x.settled(2), UNKNOWN);
-        due("first", getAndAnswer(x, 0, 1, 1, 0), 0);
+        due("first", Scene.getAndAnswer(x, 0, 1, 1, 0), 0);
         due("not ended", x.settled(1), -1);
-        due("second", getAndAnswer(x, 1, 1, 1, 0), 2);
+        due("second", Scene.getAndAnswer(x, 1, 1, 1, 0), 2);
         due("settled", x.settled(1), 1);
         due("picture", x.picture(10, 0), 2);
         due("tick", x.tick(11), 1);
         due("late", x.settled(2), 0);
     }
 
-    private static void promise9State() {
-        ClerkRows x = withClerks(10, 2);
+    static void promise9State() {
+        ClerkRows x = Scene.withClerks(10, 2);
         due("none", x.state(1), UNKNOWN);
         due("picture 0", x.state(0), UNKNOWN);
         due("picture 300", x.state(300), UNKNOWN);
@@ -516,18 +469,18 @@ public final class PromisesTest {
         due("late", x.state(1), 4);
     }
 
-    private static void promise10Agreement() {
-        ClerkRows x = withClerks(10, 3);
+    static void promise10Agreement() {
+        ClerkRows x = Scene.withClerks(10, 3);
         for (int i = 1; i <= 4; i++) {
             due("picture", x.picture(10 * i, 0), i);
         }
-        due("first", getAndAnswer(x, 0, 1, 5, 0), 0);
-        due("second", getAndAnswer(x, 1, 1, 5, 0), 2);
-        due("first", getAndAnswer(x, 0, 2, 0, 0), 0);
-        due("second", getAndAnswer(x, 1, 2, 0, 0), 3);
-        due("first", getAndAnswer(x, 0, 3, 5, 0), 0);
-        due("second", getAndAnswer(x, 1, 3, 6, 0), 0);
-        due("third", getAndAnswer(x, 2, 3, 6, 0), 2);
+        due("first", Scene.getAndAnswer(x, 0, 1, 5, 0), 0);
+        due("second", Scene.getAndAnswer(x, 1, 1, 5, 0), 2);
+        due("first", Scene.getAndAnswer(x, 0, 2, 0, 0), 0);
+        due("second", Scene.getAndAnswer(x, 1, 2, 0, 0), 3);
+        due("first", Scene.getAndAnswer(x, 0, 3, 5, 0), 0);
+        due("second", Scene.getAndAnswer(x, 1, 3, 6, 0), 0);
+        due("third", Scene.getAndAnswer(x, 2, 3, 6, 0), 2);
         due("both hold", x.give(0, 0), 4);
         due("both hold", x.give(1, 0), 4);
         due("holding is no answer", x.agreement(0, 1, 1), 3);
@@ -545,7 +498,7 @@ public final class PromisesTest {
         due("of clerks who never came", x.agreement(18, 19, 0), 0);
     }
 
-    private static void promise10AgreementRefusals() {
+    static void promise10AgreementRefusals() {
         ClerkRows x = new ClerkRows(10);
         due("a -1", x.agreement(-1, 0, 0), UNKNOWN);
         due("a 20", x.agreement(20, 0, 0), UNKNOWN);
@@ -559,8 +512,8 @@ public final class PromisesTest {
         due("both are the same", x.agreement(0, 0, 1), OUTSIDE);
     }
 
-    private static void promise11Waiting() {
-        ClerkRows x = withClerks(3, 2);
+    static void promise11Waiting() {
+        ClerkRows x = Scene.withClerks(3, 2);
         due("none", x.waiting(), 0);
         due("picture", x.picture(10, 0), 1);
         due("picture", x.picture(20, 0), 2);
@@ -583,8 +536,8 @@ public final class PromisesTest {
         due("none", x.waiting(), 0);
     }
 
-    private static void refusedCallsLetNoTimePass() {
-        ClerkRows x = withClerks(3, 1);
+    static void refusedCallsLetNoTimePass() {
+        ClerkRows x = Scene.withClerks(3, 1);
         due("picture", x.picture(10, 0), 1);
         due("picture", x.picture(10, 0), 2);
         due("give", x.give(0, 0), 1);
