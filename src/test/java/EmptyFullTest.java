@@ -93,6 +93,23 @@ public final class EmptyFullTest {
         due("office", x.office(0, 0, 3), 0);
     }
 
+    static void officeOfOneWhoHoldsLeavesTheHandFull() {
+        ClerkRows x = Scene.withClerksAndPictures(1, 2, 9);
+        Scene.get(x, 0, 1, 0);
+        due("office", x.office(0, 4, 0), 1);
+        due("give", x.give(0, 0), STATE);
+        due("answer", x.answer(0, 1, 5, 0), 0);
+        due("give", x.give(0, 0), 2);
+        due("office", x.office(0, 4, 0), 0);
+        due("leave", x.leave(0), 1);
+    }
+
+    static void officeOfOneWhoHoldsNoneLeavesTheHandEmpty() {
+        ClerkRows x = Scene.withClerksAndPictures(1, 1, 9);
+        due("office", x.office(0, 4, 0), 1);
+        due("leave", x.leave(0), 0);
+    }
+
     // "it; 0 when none is free"
 
     static void giveIs0WithoutAPicture() {

@@ -234,6 +234,20 @@ public final class EndsTest {
         due("waiting", x.waiting(), 0);
     }
 
+    static void twoOf0AreAlike() {
+        ClerkRows x = Scene.withClerksAndPictures(2, 1, 9);
+        due("answer", Scene.answerTwice(x, 1, 0, 0, 0), 3);
+        due("both", x.agreement(0, 1, 1), 1);
+        due("alike", x.agreement(0, 1, 0), 1);
+    }
+
+    static void oneOf0AndOneThatReadsAreNotAlike() {
+        ClerkRows x = Scene.withClerksAndPictures(2, 1, 9);
+        due("answer", Scene.answerTwice(x, 1, 0, 5, 0), 0);
+        due("both", x.agreement(0, 1, 1), 1);
+        due("alike", x.agreement(0, 1, 0), 0);
+    }
+
     private static void third(int first, int second, int third, int state, int settled) {
         ClerkRows x = Scene.withClerksAndPictures(4, 1, 9);
         Scene.must("two answers", Scene.answerTwice(x, 1, first, second, 0), 0);

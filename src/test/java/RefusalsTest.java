@@ -199,7 +199,8 @@ public final class RefusalsTest {
     /**
      * A busy object at time 10. Pictures: 1 settled; 2 unreadable; 3 late by a give since the last tick, and
      * held by clerk 3; 4 held by clerks 0 and 1; 5 with two answers that differ; 6, due now, answered by
-     * clerk 4 and held by clerk 2; 7 with nobody. Clerk 5 holds none, clerk 6 left, the others never came.
+     * clerk 4 and held by clerk 2; 7, for skill 3 alone, with nobody. Clerk 5 holds none, clerk 6 left, and
+     * the others never came.
      */
     private static ClerkRows busy() {
         ClerkRows x = Scene.withClerks(5, 7);
@@ -220,41 +221,64 @@ public final class RefusalsTest {
         Scene.must("picture", x.picture(10, 0), 6);
         Scene.must("first", Scene.getAndAnswer(x, 4, 6, 7, 10), 0);
         Scene.get(x, 2, 6, 10);
-        Scene.must("picture", x.picture(12, 1), 7);
+        Scene.must("picture", x.picture(12, 3), 7);
         return x;
     }
 
-    /** What the calls of the face answer one after another: reading first, then calls that show the rest. */
+    /**
+     * What the calls of the face answer one after another on the busy object: reading first, then calls that
+     * show the rest. Those that are refused come last, since what they might change would hide the rest.
+     */
     private static List<Long> lookAtAll(ClerkRows x) {
         List<Long> seen = new ArrayList<>();
+        read(x, seen);
+        seen.add((long) x.picture(10, 0));
+        seen.add((long) x.tick(10));
+        // Clerk 5 comes next to clerk 0, whose office bars the same pictures.
+        int[] order = {0, 5, 1, 2, 3, 4};
+        int[] held = {4, 4, 6, 3, 0, 0};
+        for (int clerk : order) {
+            lookAtHand(x, clerk, held[clerk], seen);
+        }
+        seen.add((long) x.office(6, 1, 3));
+        for (int clerk = 0; clerk < 6; clerk++) {
+            seen.add((long) x.office(clerk, clerk % 5, 3));
+            seen.add((long) x.leave(clerk));
+        }
+        seen.add((long) x.leave(7));
+        seen.add((long) x.tick(9));
+        seen.add((long) x.state(9));
+        seen.add((long) x.tick(11));
+        seen.add((long) x.tick(LAST_TIME));
+        return seen;
+    }
+
+    private static void read(ClerkRows x, List<Long> seen) {
         seen.add((long) x.waiting());
-        for (int picture = 0; picture <= 9; picture++) {
+        for (int picture = 1; picture <= 7; picture++) {
             seen.add((long) x.state(picture));
             seen.add((long) x.settled(picture));
         }
-        for (int a = 0; a < 7; a++) {
+        for (int a = 0; a < 8; a++) {
             for (int b = 0; b < a; b++) {
                 seen.add(x.agreement(a, b, 0));
                 seen.add(x.agreement(a, b, 1));
             }
         }
-        for (int clerk = 0; clerk < 6; clerk++) {
-            seen.add((long) x.office(clerk, clerk % 5, 3));
+    }
+
+    /** Whether the clerk holds that picture (0 for none), and which ones are free for the clerk after it. */
+    private static void lookAtHand(ClerkRows x, int clerk, int held, List<Long> seen) {
+        if (held > 0) {
+            seen.add((long) x.answer(clerk, held, 100 + clerk, 10));
         }
-        seen.add((long) x.tick(9));
-        seen.add((long) x.tick(10));
-        seen.add((long) x.picture(10, 0));
-        for (int clerk = 0; clerk < 8; clerk++) {
-            seen.add((long) x.give(clerk, 10));
-            for (int picture = 1; picture <= 8; picture++) {
-                seen.add((long) x.answer(clerk, picture, 8, 10));
+        for (int i = 0; i < 4; i++) {
+            int given = x.give(clerk, 10);
+            seen.add((long) given);
+            if (given > 0) {
+                seen.add((long) x.answer(clerk, given, 100 + clerk, 10));
             }
-            seen.add((long) x.give(clerk, 10));
-            seen.add((long) x.leave(clerk));
         }
-        seen.add((long) x.tick(11));
-        seen.add((long) x.tick(LAST_TIME));
-        return seen;
     }
 
     private static void changesNothing(String name, int refusal, Call call) {
@@ -262,7 +286,8 @@ public final class RefusalsTest {
         due(name, call.on(x), refusal);
         List<Long> got = lookAtAll(x);
         List<Long> want = lookAtAll(busy());
-        for (int i = 0; i < want.size(); i++) {
+        due("how many calls were made after " + name, got.size(), want.size());
+        for (int i = 0; i < Math.min(got.size(), want.size()); i++) {
             due("call " + i + " after " + name, got.get(i), want.get(i));
         }
     }
@@ -332,11 +357,19 @@ public final class RefusalsTest {
     static void refusedForRoomChangesNothing() {
         ClerkRows x = Scene.withLatePictures(299);
         due("the 300th", x.picture(9, 0), 300);
+        due("office", x.office(0, 0, 3), 1);
+        due("office", x.office(1, 1, 3), 1);
+        Scene.get(x, 0, 300, 3);
         due("picture", x.picture(9, 0), ROOM);
-        due("state of the 301st", x.state(301), UNKNOWN);
-        due("state of the 300th", x.state(300), 0);
         due("waiting", x.waiting(), 1);
+        due("state of the 300th", x.state(300), 0);
+        due("the time is as it was", x.tick(3), 0);
+        due("the one is held", x.answer(0, 300, 5, 3), 0);
+        due("the other gets it", x.give(1, 3), 300);
+        due("offices are as they were", x.office(0, 0, 3) + x.office(1, 1, 3), 0);
         due("tick", x.tick(10), 1);
+        due("nobody else came", x.leave(2), STATE);
+        due("state of the 301st", x.state(301), UNKNOWN);
     }
 
     // The other side: a call that is not refused does change something, so that the look above can see it.
