@@ -7,7 +7,7 @@ import java.util.Arrays;
 import java.util.Set;
 import java.util.TreeSet;
 
-/** The public face: the document's members with its types, and no other that is not private. */
+/** The public face: the document's members with its types, and no other that is not private but classes. */
 public final class FaceTest {
     private static final Set<String> FACE = new TreeSet<>(Arrays.asList(
         "UNKNOWN int -101", "OUTSIDE int -102", "STATE int -103", "ROOM int -104",
@@ -33,9 +33,33 @@ public final class FaceTest {
             addCall(check, found, method, method.getReturnType() + " " + method.getName());
         }
         check.due("the face is " + found, found.equals(FACE));
+        dueOfPrivateNames(check);
+        dueOfClassesInside(check);
         check.due("the class is public and final",
             ClerkRows.class.getModifiers() == (Modifier.PUBLIC | Modifier.FINAL));
         check.end();
+    }
+
+    /** LANGUAGE.md, rule 1: no private method bears the name of a public one. */
+    private static void dueOfPrivateNames(Check check) {
+        Set<String> open = new TreeSet<>();
+        for (Method method : ClerkRows.class.getMethods()) {
+            open.add(method.getName());
+        }
+        for (Method method : ClerkRows.class.getDeclaredMethods()) {
+            if (Modifier.isPrivate(method.getModifiers())) {
+                check.due(method + " has a name of its own", !open.contains(method.getName()));
+            }
+        }
+    }
+
+    /** LANGUAGE.md, rule 1: the classes inside are private or package-visible, and static. */
+    private static void dueOfClassesInside(Check check) {
+        for (Class<?> inside : ClerkRows.class.getDeclaredClasses()) {
+            int is = inside.getModifiers();
+            check.due(inside + " is static and not for others",
+                Modifier.isStatic(is) && !Modifier.isPublic(is) && !Modifier.isProtected(is));
+        }
     }
 
     private static void addCall(Check check, Set<String> found, Executable call, String start) {
